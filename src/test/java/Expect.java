@@ -8,6 +8,11 @@ final class Expect {
         part = name;
     }
 
+    /** One more answer that is as due, without the cost of naming the call. */
+    void right() {
+        seen++;
+    }
+
     void due(String call, long want, long got) {
         seen++;
         if (want != got) {

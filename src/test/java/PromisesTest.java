@@ -279,6 +279,7 @@ public final class PromisesTest {
         for (int wild : new int[] {Integer.MIN_VALUE, -1, 60000, Integer.MAX_VALUE, 1, 2, 18}) {
             e.due("claim(" + wild + ")", BAD_VALUE, x.claim(wild));
         }
+        e.due("above the greatest tag, with its check", BAD_VALUE, x.claim(60008));
         e.due("never given", UNKNOWN, x.claim(0));
         e.due("greatest tag, never given", UNKNOWN, x.claim(x.tagOf(5999)));
         int tag = x.take(3, 4);
@@ -792,6 +793,7 @@ public final class PromisesTest {
             e.due("tag(wild, 0)", BAD_VALUE, x.tag(wild, 0));
             e.due("tag(old, wild)", BAD_VALUE, x.tag(old, wild));
         }
+        e.due("tag(60008, 0)", BAD_VALUE, x.tag(60008, 0));
         e.due("tag(old, 6)", BAD_VALUE, x.tag(old, 6));
         e.due("never given, bad what", BAD_VALUE, x.tag(x.tagOf(1), 6));
         e.due("never given", UNKNOWN, x.tag(x.tagOf(1), 0));
