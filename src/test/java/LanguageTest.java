@@ -1,21 +1,29 @@
 import java.io.IOException;
+import java.lang.reflect.Field;
+import java.lang.reflect.Method;
+import java.lang.reflect.Modifier;
 import java.nio.file.Files;
 import java.nio.file.Path;
+import java.util.ArrayList;
+import java.util.List;
 import java.util.regex.Matcher;
 import java.util.regex.Pattern;
 
-/** Looks in the source for words and forms that LANGUAGE.md does not leave. */
+/** Looks in the source, and in what is compiled of it, for words, forms and sizes that LANGUAGE.md does not leave. */
 public final class LanguageTest {
     private static final String[] FORBIDDEN = {
         "\\b(throw|throws|try|catch|finally|synchronized|assert|native|volatile|transient|protected|var)\\b",
         "->", "::", "\\b(equals|hashCode|toString)\\s*\\(", "@\\w+", "\\b(Object|Class|Thread|Random|Runtime|Optional|Stream)\\b",
         "\\bnew\\s+\\w+(<\\w*>)?\\s*\\([^)]*\\)\\s*\\{", "\\w+Exact\\b", "\\bSystem\\.(?!arraycopy\\b)", "\\bArrays\\.(?!copyOf\\b|copyOfRange\\b|fill\\b)",
-        "\\bstatic\\s*\\{", "[^\\x00-\\x7f]"
+        "\\bstatic\\s*\\{", "[^\\x00-\\x7f]", "\"\\s*\\+|\\+\\s*\""
     };
+    private static final int MOST_CLASSES = 12;
+    private static final int MOST_FIELDS = 20;
+    private static final int MOST_PARAMETERS = 7;
     private static final Pattern METHOD = Pattern.compile("^ {4,8}(?:(?:public|private|static|final|abstract) )*[\\w\\[\\]]+ ([a-z]\\w*)\\([^;]*\\) \\{$");
-    private static final String[] FACE = {"addRack", "open", "age", "set", "take", "claim", "giveOut", "move", "moveAll", "shorten",
+    private static final List<String> FACE = List.of("addRack", "open", "age", "set", "take", "claim", "giveOut", "move", "moveAll", "shorten",
         "pass", "type", "clearText", "claimAll", "undo", "keep", "restore", "rack", "hook", "tag", "tagOf", "guest", "next", "due",
-        "event", "count"};
+        "event", "count");
 
     private static final Expect e = new Expect();
 
@@ -36,6 +44,7 @@ public final class LanguageTest {
         e.that("classes inside are static", !Pattern.compile("(?m)^ {4}private (?!static)[\\w ]*class ").matcher(code).find());
         methods(code.split("\n"));
         members();
+        classes();
         e.end();
     }
 
@@ -47,7 +56,7 @@ public final class LanguageTest {
             if (m.matches()) {
                 start = i;
                 boolean open = lines[i].startsWith("    public ");
-                e.due(m.group(1) + " bears a name of the face", open ? 1 : 0, java.util.List.of(FACE).contains(m.group(1)) ? 1 : 0);
+                e.due(m.group(1) + " bears a name of the face", open ? 1 : 0, FACE.contains(m.group(1)) ? 1 : 0);
             }
             if (lines[i].matches(" {4,8}\\}")) {
                 e.that("the method that begins in line " + start + " has at most 60 lines", i - start <= 60 || lines[i].equals("    }"));
@@ -57,18 +66,61 @@ public final class LanguageTest {
 
     private static void members() {
         e.part("members");
-        for (java.lang.reflect.Method method : YearTags.class.getDeclaredMethods()) {
-            boolean isPublic = java.lang.reflect.Modifier.isPublic(method.getModifiers());
-            boolean isPrivate = java.lang.reflect.Modifier.isPrivate(method.getModifiers());
+        for (Method method : YearTags.class.getDeclaredMethods()) {
+            boolean isPublic = Modifier.isPublic(method.getModifiers());
+            boolean isPrivate = Modifier.isPrivate(method.getModifiers());
             e.that(method + " is public or private", isPublic || isPrivate);
-            e.due(method + " is of the face", isPublic ? 1 : 0, java.util.List.of(FACE).contains(method.getName()) ? 1 : 0);
+            e.due(method + " is of the face", isPublic ? 1 : 0, FACE.contains(method.getName()) ? 1 : 0);
         }
-        for (java.lang.reflect.Field field : YearTags.class.getDeclaredFields()) {
+        for (Field field : YearTags.class.getDeclaredFields()) {
             int m = field.getModifiers();
-            e.that(field + " is a public constant or private", java.lang.reflect.Modifier.isPrivate(m)
-                || java.lang.reflect.Modifier.isPublic(m) && java.lang.reflect.Modifier.isStatic(m) && java.lang.reflect.Modifier.isFinal(m));
+            e.that(field + " is a public constant or private", Modifier.isPrivate(m)
+                || Modifier.isPublic(m) && Modifier.isStatic(m) && Modifier.isFinal(m));
         }
         e.due("constructors", 1, YearTags.class.getConstructors().length);
-        e.that("the class is final", java.lang.reflect.Modifier.isFinal(YearTags.class.getModifiers()));
+        e.that("the class is final", Modifier.isFinal(YearTags.class.getModifiers()));
+    }
+
+    private static void classes() {
+        List<Class<?>> all = new ArrayList<>(List.of(YearTags.class));
+        for (int i = 0; i < all.size() && i < 100; i++) {
+            all.addAll(List.of(all.get(i).getDeclaredClasses()));
+        }
+        e.part("classes");
+        e.that("at most " + MOST_CLASSES + " classes", all.size() <= MOST_CLASSES);
+        for (Class<?> one : all) {
+            int m = one.getModifiers();
+            e.that(one + " is static, and neither public nor protected",
+                one == YearTags.class || Modifier.isStatic(m) && !Modifier.isPublic(m) && !Modifier.isProtected(m));
+            fields(one);
+            for (Method method : one.getDeclaredMethods()) {
+                e.that(method + " takes few parameters", method.getParameterCount() <= MOST_PARAMETERS);
+            }
+        }
+    }
+
+    private static void fields(Class<?> of) {
+        int held = 0;
+        for (Field field : of.getDeclaredFields()) {
+            boolean isConstant = Modifier.isStatic(field.getModifiers());
+            held += isConstant ? 0 : 1;
+            e.that(field + ", if static, is final", !isConstant || Modifier.isFinal(field.getModifiers()));
+            e.that(field + " is of a type that is left", isConstant ? isTypeOfConstant(field.getType()) : isTypeOfField(field.getType()));
+        }
+        e.that(of + " has at most " + MOST_FIELDS + " fields", held <= MOST_FIELDS);
+    }
+
+    private static boolean isTypeOfConstant(Class<?> type) {
+        return type.isEnum() || type.isArray() && type.getComponentType().isEnum() || List.of(int.class, long.class, boolean.class, char.class, String.class, int[].class, long[].class, char[].class,
+            byte[].class).contains(type);
+    }
+
+    /** Object is what is compiled of a field of a generic class; the source itself may not bear the word. */
+    private static boolean isTypeOfField(Class<?> type) {
+        boolean isRow = type.isArray();
+        Class<?> inside = isRow ? type.getComponentType() : type;
+        boolean isTable = inside.isArray() && inside.getComponentType().isPrimitive();
+        return inside.isPrimitive() || isTable || inside.getNestHost() == YearTags.class
+            || !isRow && List.of(Object.class, String.class, StringBuilder.class, ArrayList.class, List.class).contains(inside);
     }
 }
